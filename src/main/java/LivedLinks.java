@@ -46,8 +46,8 @@ public final class LivedLinks {
         history = new History();
         text = new LinkText();
         found = new Links();
-        moments = new Moments(links);
-        way = new HalvesWay(links);
+        moments = new Moments();
+        way = new HalvesWay();
     }
 
     // ---- links
@@ -133,7 +133,7 @@ public final class LivedLinks {
         if (!isMoment(moment)) {
             return UNKNOWN;
         }
-        int living = moments.livingAt(moment);
+        int living = links.livingAt(moment);
         if (living == 0) {
             return NONE;
         }
@@ -205,9 +205,9 @@ public final class LivedLinks {
             case 3:
                 return links.toOf(link);
             case 4:
-                return way.spansOf(link);
+                return links.spansOf(link);
             case 5:
-                return moments.neededMomentsOf(link);
+                return moments.neededMomentsOf(links, link);
             default:
                 return BAD_VALUE;
         }
@@ -218,7 +218,7 @@ public final class LivedLinks {
         if (!isMoment(moment) || !isPoint(one) || !isPoint(other)) {
             return UNKNOWN;
         }
-        return asNumber(moments.areJoinedAt(moment, one, other));
+        return asNumber(moments.areJoinedAt(links, moment, one, other));
     }
 
     /** Promise 15: tells about a moment. */
@@ -228,17 +228,17 @@ public final class LivedLinks {
         }
         switch (what) {
             case 0:
-                return moments.livingAt(moment);
+                return links.livingAt(moment);
             case 1:
-                return moments.partsAt(moment);
+                return moments.partsAt(links, moment);
             case 2:
-                return asNumber(moments.isOddAt(moment));
+                return asNumber(moments.isOddAt(links, moment));
             case 3:
-                return moments.greatestPartAt(moment);
+                return moments.greatestPartAt(links, moment);
             case 4:
-                return moments.neededLinksAt(moment);
+                return moments.neededLinksAt(links, moment);
             case 5:
-                return moments.linklessPointsAt(moment);
+                return moments.linklessPointsAt(links, moment);
             default:
                 return BAD_VALUE;
         }
@@ -251,11 +251,11 @@ public final class LivedLinks {
         }
         switch (what) {
             case 0:
-                return moments.lowestOfPartAt(moment, point);
+                return moments.lowestOfPartAt(links, moment, point);
             case 1:
-                return moments.partSizeAt(moment, point);
+                return moments.partSizeAt(links, moment, point);
             case 2:
-                return moments.partBitsAt(moment, point);
+                return moments.partBitsAt(links, moment, point);
             default:
                 return BAD_VALUE;
         }
@@ -269,7 +269,7 @@ public final class LivedLinks {
         if (!links.livesAt(link, moment)) {
             return NONE;
         }
-        return asNumber(moments.isNeededAt(link, moment));
+        return asNumber(moments.isNeededAt(links, link, moment));
     }
 
     /** Promise 18: tells about the moments at which two points are joined. */
@@ -284,7 +284,7 @@ public final class LivedLinks {
         int longest = 0;
         int longestBegin = NONE;
         for (int moment = 0; moment < MOMENTS; moment++) {
-            if (moments.areJoinedAt(moment, one, other)) {
+            if (moments.areJoinedAt(links, moment, one, other)) {
                 if (many == 0) {
                     first = moment;
                 }
@@ -321,7 +321,7 @@ public final class LivedLinks {
             return UNKNOWN;
         }
         for (int moment = from; moment < MOMENTS; moment++) {
-            if (moments.isOddAt(moment)) {
+            if (moments.isOddAt(links, moment)) {
                 return moment;
             }
         }
@@ -336,7 +336,7 @@ public final class LivedLinks {
         if (depth < 0 || depth > DEEPEST) {
             return BAD_VALUE;
         }
-        way.goTo(moment, depth);
+        way.goTo(links, moment, depth);
         switch (what) {
             case 0:
                 return spanBegin(moment, depth);
@@ -363,11 +363,11 @@ public final class LivedLinks {
             case 3:
                 return countOnWay(what);
             case 4:
-                return moments.oddMoments();
+                return moments.oddMoments(links);
             case 5:
-                return moments.mostParts();
+                return moments.mostParts(links);
             case 6:
-                return moments.fewestParts();
+                return moments.fewestParts(links);
             case 7:
                 return history.size();
             case 8:
@@ -378,7 +378,7 @@ public final class LivedLinks {
     }
 
     private int countOnWay(int what) {
-        way.goAll();
+        way.goAll(links);
         if (what == 1) {
             return way.madeInAll();
         }
@@ -450,6 +450,16 @@ public final class LivedLinks {
             return has(link) && from[link] <= moment && moment < to[link];
         }
 
+        int livingAt(int moment) {
+            int living = 0;
+            for (int link = 0; link < size; link++) {
+                if (livesAt(link, moment)) {
+                    living++;
+                }
+            }
+            return living;
+        }
+
         private boolean coversAll(int link, int begin, int length) {
             return has(link) && from[link] <= begin && begin + length <= to[link];
         }
@@ -460,6 +470,19 @@ public final class LivedLinks {
             }
             return depth == 0
                 || !coversAll(link, spanBegin(begin, depth - 1), spanLength(depth - 1));
+        }
+
+        /** How many spans a link is laid at. */
+        int spansOf(int link) {
+            int spans = 0;
+            for (int moment = 0; moment < MOMENTS; moment++) {
+                for (int depth = 0; depth <= DEEPEST; depth++) {
+                    if (spanBegin(moment, depth) == moment && isLaidAt(link, moment, depth)) {
+                        spans++;
+                    }
+                }
+            }
+            return spans;
         }
 
         void empty() {
@@ -762,7 +785,6 @@ public final class LivedLinks {
 
     /** What is to be told about single moments. */
     private static final class Moments {
-        private final Links links;
         private final Joinings points = new Joinings(POINTS);
         /**
          * Each point twice, and each link from either one of a point to the other one of the
@@ -770,11 +792,7 @@ public final class LivedLinks {
          */
         private final Joinings sides = new Joinings(2 * POINTS);
 
-        Moments(Links links) {
-            this.links = links;
-        }
-
-        private void joinWithout(int leftOut, int moment) {
+        private void joinWithout(Links links, int leftOut, int moment) {
             points.takeBackTo(0);
             for (int link = 0; link < links.size(); link++) {
                 if (link != leftOut && links.livesAt(link, moment)) {
@@ -783,28 +801,18 @@ public final class LivedLinks {
             }
         }
 
-        int livingAt(int moment) {
-            int living = 0;
-            for (int link = 0; link < links.size(); link++) {
-                if (links.livesAt(link, moment)) {
-                    living++;
-                }
-            }
-            return living;
-        }
-
-        boolean areJoinedAt(int moment, int one, int other) {
-            joinWithout(NO_LINK, moment);
+        boolean areJoinedAt(Links links, int moment, int one, int other) {
+            joinWithout(links, NO_LINK, moment);
             return points.areJoined(one, other);
         }
 
-        int partsAt(int moment) {
-            joinWithout(NO_LINK, moment);
+        int partsAt(Links links, int moment) {
+            joinWithout(links, NO_LINK, moment);
             return POINTS - points.standing();
         }
 
-        int lowestOfPartAt(int moment, int point) {
-            joinWithout(NO_LINK, moment);
+        int lowestOfPartAt(Links links, int moment, int point) {
+            joinWithout(links, NO_LINK, moment);
             for (int member = 0; member < point; member++) {
                 if (points.areJoined(point, member)) {
                     return member;
@@ -813,13 +821,13 @@ public final class LivedLinks {
             return point;
         }
 
-        int partSizeAt(int moment, int point) {
-            joinWithout(NO_LINK, moment);
+        int partSizeAt(Links links, int moment, int point) {
+            joinWithout(links, NO_LINK, moment);
             return points.partSize(point);
         }
 
-        int partBitsAt(int moment, int point) {
-            joinWithout(NO_LINK, moment);
+        int partBitsAt(Links links, int moment, int point) {
+            joinWithout(links, NO_LINK, moment);
             int bits = 0;
             for (int member = 0; member < POINTS; member++) {
                 if (points.areJoined(point, member)) {
@@ -829,8 +837,8 @@ public final class LivedLinks {
             return bits;
         }
 
-        int greatestPartAt(int moment) {
-            joinWithout(NO_LINK, moment);
+        int greatestPartAt(Links links, int moment) {
+            joinWithout(links, NO_LINK, moment);
             int greatest = 0;
             for (int point = 0; point < POINTS; point++) {
                 greatest = Math.max(greatest, points.partSize(point));
@@ -838,8 +846,8 @@ public final class LivedLinks {
             return greatest;
         }
 
-        int linklessPointsAt(int moment) {
-            joinWithout(NO_LINK, moment);
+        int linklessPointsAt(Links links, int moment) {
+            joinWithout(links, NO_LINK, moment);
             int linkless = 0;
             for (int point = 0; point < POINTS; point++) {
                 // A link joins two points, so just a point without one is a part of its own.
@@ -850,35 +858,35 @@ public final class LivedLinks {
             return linkless;
         }
 
-        boolean isNeededAt(int link, int moment) {
+        boolean isNeededAt(Links links, int link, int moment) {
             if (!links.livesAt(link, moment)) {
                 return false;
             }
-            joinWithout(link, moment);
+            joinWithout(links, link, moment);
             return !points.areJoined(links.oneOf(link), links.otherOf(link));
         }
 
-        int neededLinksAt(int moment) {
+        int neededLinksAt(Links links, int moment) {
             int needed = 0;
             for (int link = 0; link < links.size(); link++) {
-                if (isNeededAt(link, moment)) {
+                if (isNeededAt(links, link, moment)) {
                     needed++;
                 }
             }
             return needed;
         }
 
-        int neededMomentsOf(int link) {
+        int neededMomentsOf(Links links, int link) {
             int needed = 0;
             for (int moment = 0; moment < MOMENTS; moment++) {
-                if (isNeededAt(link, moment)) {
+                if (isNeededAt(links, link, moment)) {
                     needed++;
                 }
             }
             return needed;
         }
 
-        boolean isOddAt(int moment) {
+        boolean isOddAt(Links links, int moment) {
             sides.takeBackTo(0);
             for (int link = 0; link < links.size(); link++) {
                 if (links.livesAt(link, moment)) {
@@ -894,28 +902,28 @@ public final class LivedLinks {
             return false;
         }
 
-        int oddMoments() {
+        int oddMoments(Links links) {
             int odd = 0;
             for (int moment = 0; moment < MOMENTS; moment++) {
-                if (isOddAt(moment)) {
+                if (isOddAt(links, moment)) {
                     odd++;
                 }
             }
             return odd;
         }
 
-        int mostParts() {
+        int mostParts(Links links) {
             int most = 0;
             for (int moment = 0; moment < MOMENTS; moment++) {
-                most = Math.max(most, partsAt(moment));
+                most = Math.max(most, partsAt(links, moment));
             }
             return most;
         }
 
-        int fewestParts() {
+        int fewestParts(Links links) {
             int fewest = POINTS;
             for (int moment = 0; moment < MOMENTS; moment++) {
-                fewest = Math.min(fewest, partsAt(moment));
+                fewest = Math.min(fewest, partsAt(links, moment));
             }
             return fewest;
         }
@@ -923,7 +931,6 @@ public final class LivedLinks {
 
     /** The way by halves. */
     private static final class HalvesWay {
-        private final Links links;
         private final Joinings points = new Joinings(POINTS);
         /** For each depth, how many joinings stand behind those of the span gone through last. */
         private final int[] standingAt = new int[DEEPEST + 1];
@@ -932,10 +939,6 @@ public final class LivedLinks {
         private int laidInAll;
         private int madeInAll;
         private int mostStanding;
-
-        HalvesWay(Links links) {
-            this.links = links;
-        }
 
         int laidHere() {
             return laidHere;
@@ -957,27 +960,15 @@ public final class LivedLinks {
             return mostStanding;
         }
 
-        int spansOf(int link) {
-            int spans = 0;
-            for (int moment = 0; moment < MOMENTS; moment++) {
-                for (int depth = 0; depth <= DEEPEST; depth++) {
-                    if (spanBegin(moment, depth) == moment && links.isLaidAt(link, moment, depth)) {
-                        spans++;
-                    }
-                }
-            }
-            return spans;
-        }
-
         /** Goes the whole way: by the moments with which spans begin, at each the longest first. */
-        void goAll() {
+        void goAll(Links links) {
             laidInAll = 0;
             madeInAll = 0;
             mostStanding = 0;
             for (int moment = 0; moment < MOMENTS; moment++) {
                 for (int depth = 0; depth <= DEEPEST; depth++) {
                     if (spanBegin(moment, depth) == moment) {
-                        joinLaid(moment, depth);
+                        joinLaid(links, moment, depth);
                         laidInAll += laidHere;
                         madeInAll += madeHere;
                         mostStanding = Math.max(mostStanding, points.standing());
@@ -987,13 +978,13 @@ public final class LivedLinks {
         }
 
         /** Goes through the spans around a span, and to this. */
-        void goTo(int moment, int deepest) {
+        void goTo(Links links, int moment, int deepest) {
             for (int depth = 0; depth <= deepest; depth++) {
-                joinLaid(spanBegin(moment, depth), depth);
+                joinLaid(links, spanBegin(moment, depth), depth);
             }
         }
 
-        private void joinLaid(int begin, int depth) {
+        private void joinLaid(Links links, int begin, int depth) {
             if (depth < 0 || depth > DEEPEST) {
                 return;
             }

@@ -116,6 +116,14 @@ public final class HalvesTest {
         due("way: a life of ten spans", x.addLink(9, 10, 1, 63), 7);
         due("way: made then", x.count(1), 14);
         due("way: standing then", x.count(3), 4);
+        for (int link = 7; link > 1; link--) {
+            due("way: remove", x.removeLink(link), link);
+        }
+        due("way: standing of two", x.count(3), 2);
+        due("way: remove", x.removeLink(0), 1);
+        due("way: standing of one", x.count(3), 1);
+        due("way: remove", x.removeLink(0), 0);
+        due("way: standing of none", x.count(3), 0);
     }
 
     /** The most that stand at a time are taken back: links that live one behind the other never add up. */

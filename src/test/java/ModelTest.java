@@ -47,7 +47,7 @@ public final class ModelTest {
     }
 
     private int moment() {
-        return mostly(64);
+        return any(8) == 0 ? any(2) * 63 : mostly(64);
     }
 
     private int link() {

@@ -87,6 +87,14 @@ public final class ToldTest {
         momentIs(x, 20, 1, 15, 0, 2, 1, 14);
         momentIs(x, 63, 1, 15, 0, 2, 1, 14);
         momentIs(new LivedLinks(), 30, 0, 16, 0, 1, 0, 16);
+        // One number of one moment behind the same number of another one.
+        int[][] numbers = {{0, 1, 15, 0, 2, 1, 14}, {5, 2, 14, 0, 3, 2, 13}, {7, 5, 13, 1, 3, 0, 11},
+            {10, 2, 14, 0, 3, 2, 13}, {63, 1, 15, 0, 2, 1, 14}};
+        for (int what = 0; what < 6; what++) {
+            for (int[] told : numbers) {
+                due("moment(" + told[0] + ", " + what + ") in turn", x.moment(told[0], what), told[1 + what]);
+            }
+        }
     }
 
     private static void momentIs(LivedLinks x, int moment, int... want) {
@@ -126,6 +134,14 @@ public final class ToldTest {
         partIs(x, 2, 3, 0, 2, 9);
         partIs(x, 2, 0, 0, 2, 9);
         partIs(x, 3, 9, 9, 1, 1 << 9);
+        // One number of one moment behind the same number of another one.
+        int[][] numbers = {{0, 9, 1, 1 << 9}, {1, 9, 2, 1 << 15 | 1 << 9}, {2, 4, 3, 1 << 15 | 1 << 9 | 1 << 4},
+            {3, 9, 1, 1 << 9}};
+        for (int what = 0; what < 3; what++) {
+            for (int[] told : numbers) {
+                due("part of 9 at " + told[0] + ", " + what, x.part(told[0], 9, what), told[1 + what]);
+            }
+        }
     }
 
     private static void partIs(LivedLinks x, int moment, int point, int lowest, int size, int bits) {
@@ -249,6 +265,21 @@ public final class ToldTest {
         due("count: text", x.count(8), 3);
         x.setLife(0, 1, 64);
         due("count: most parts with a moment without links", x.count(5), 16);
+        x.addLink(0, 1, 0, 1);
+        x.addLink(1, 2, 0, 1);
+        x.addLink(2, 0, 0, 1);
+        x.addLink(3, 4, 0, 1);
+        x.addLink(4, 5, 0, 1);
+        due("count: odd moments with the first one", x.count(4), 3);
+        due("count: fewest parts at the first one", x.count(6), 12);
+        x.addLink(0, 1, 63, 64);
+        x.addLink(2, 0, 63, 64);
+        x.addLink(1, 2, 63, 64);
+        x.addLink(3, 2, 63, 64);
+        x.addLink(3, 4, 63, 64);
+        x.addLink(5, 4, 63, 64);
+        due("count: odd moments with the last one", x.count(4), 4);
+        due("count: fewest parts at the last one", x.count(6), 11);
         LivedLinks none = new LivedLinks();
         int[] want = {0, 0, 0, 0, 0, 16, 16, 0, 0};
         for (int what = 0; what < want.length; what++) {
