@@ -36,6 +36,7 @@ public final class LivedLinks {
     /** The links of the text, until it is sure that they can be added. */
     private final Links found;
     private final Moments moments;
+    private final MomentRows joinedMoments;
     private final HalvesWay way;
 
     /** Promise 1: creates points without links. */
@@ -47,6 +48,7 @@ public final class LivedLinks {
         text = new LinkText();
         found = new Links();
         moments = new Moments();
+        joinedMoments = new MomentRows();
         way = new HalvesWay();
     }
 
@@ -277,39 +279,23 @@ public final class LivedLinks {
         if (!isPoint(one) || !isPoint(other)) {
             return UNKNOWN;
         }
-        int many = 0;
-        int first = NONE;
-        int last = NONE;
-        int row = 0;
-        int longest = 0;
-        int longestBegin = NONE;
+        joinedMoments.empty();
         for (int moment = 0; moment < MOMENTS; moment++) {
             if (moments.areJoinedAt(links, moment, one, other)) {
-                if (many == 0) {
-                    first = moment;
-                }
-                many++;
-                last = moment;
-                row++;
-            } else {
-                row = 0;
-            }
-            if (row > longest) {
-                longest = row;
-                longestBegin = moment - row + 1;
+                joinedMoments.add(moment);
             }
         }
         switch (what) {
             case 0:
-                return many;
+                return joinedMoments.many();
             case 1:
-                return first;
+                return joinedMoments.first();
             case 2:
-                return last;
+                return joinedMoments.last();
             case 3:
-                return longest;
+                return joinedMoments.longest();
             case 4:
-                return longestBegin;
+                return joinedMoments.longestBegin();
             default:
                 return BAD_VALUE;
         }
@@ -926,6 +912,61 @@ public final class LivedLinks {
                 fewest = Math.min(fewest, partsAt(links, moment));
             }
             return fewest;
+        }
+    }
+
+    /** Moments, added the earlier ones first, and the rows that they make. */
+    private static final class MomentRows {
+        private int many;
+        private int first;
+        private int last;
+        /** How long the row is that ends with the last moment. */
+        private int row;
+        private int longest;
+        private int longestBegin;
+
+        int many() {
+            return many;
+        }
+
+        int first() {
+            return first;
+        }
+
+        int last() {
+            return last;
+        }
+
+        int longest() {
+            return longest;
+        }
+
+        /** Where the longest row begins, and of several the first one. */
+        int longestBegin() {
+            return longestBegin;
+        }
+
+        void empty() {
+            many = 0;
+            first = NONE;
+            last = NONE;
+            row = 0;
+            longest = 0;
+            longestBegin = NONE;
+        }
+
+        void add(int moment) {
+            boolean goesOn = many > 0 && moment == last + 1;
+            row = goesOn ? row + 1 : 1;
+            if (many == 0) {
+                first = moment;
+            }
+            many++;
+            last = moment;
+            if (row > longest) {
+                longest = row;
+                longestBegin = moment - row + 1;
+            }
         }
     }
 

@@ -17,6 +17,7 @@ public final class ToldTest {
         promise18Wrong();
         promise19Odd();
         promise19Rings();
+        promise19AnyRing();
         promise21Count();
         CHECK.close();
     }
@@ -249,6 +250,24 @@ public final class ToldTest {
         due("a link between opposite ones", x.moment(2, 2), 0);
         x.addLink(0, 5, 4, 5);
         due("a link between like ones", x.odd(0), 4);
+    }
+
+    /** Any ring makes a moment odd, in whichever part it is, and beside rings of even length. */
+    private static void promise19AnyRing() {
+        for (int point = 0; point < 14; point++) {
+            LivedLinks x = CHECK.with(Check.link(point, point + 1, 8, 9), Check.link(point + 1, point + 2, 8, 9),
+                Check.link(point + 2, point, 8, 9));
+            due("a ring with " + point + ": odd", x.odd(0), 8);
+            due("a ring with " + point + ": moment", x.moment(8, 2), 1);
+            due("a ring with " + point + ": count", x.count(4), 1);
+        }
+        LivedLinks x = CHECK.with(Check.link(0, 1, 0, 64), Check.link(1, 0, 0, 64), Check.link(2, 3, 0, 64),
+            Check.link(3, 4, 0, 64), Check.link(4, 5, 0, 64), Check.link(5, 2, 0, 64), Check.link(15, 14, 20, 40),
+            Check.link(14, 13, 30, 64), Check.link(13, 15, 0, 32));
+        due("beside even rings: odd", x.odd(0), 30);
+        due("beside even rings: the last one", x.odd(31), 31);
+        due("beside even rings: none behind it", x.odd(32), NONE);
+        due("beside even rings: count", x.count(4), 2);
     }
 
     private static void promise21Count() {
